@@ -40,6 +40,7 @@ public final class PromiseTest {
         promise21back();
         promise22count();
         promise23digest();
+        farNumbersAreBad();
         System.out.println(checks + " checks, " + wrong + " wrong");
         if (wrong != 0) System.exit(1);
     }
@@ -366,6 +367,15 @@ public final class PromiseTest {
         due("8 ( locked", x.goes(), 4);
         x = with("(<l>/+)");
         due("8 ( report", x.goes(), 5);
+        x = with("(+/!1)!2");
+        due("8 ( goes on", x.goes(), 4);
+        due("8 ( goes on to 2", x.was(2), 2);
+        x = with("(!1/)!2");
+        due("8 ( alarm ends all around", x.goes(), 4);
+        due("8 ( alarm 1", x.was(2), 1);
+        x = with("(l/(l/(l/(l/(l/(l/(l/(l/!1))))))))");
+        due("8 ( eight deep", x.goes(), 4);
+        due("8 ( eight deep befell", x.was(7), 9);
         x = with("1{(0{2{l}!3}/)}");
         due("8 ( shut all", x.goes(), 4);
         dueRow("8 ( shut all diary", diary(x), 11, 10, 12, 22, 20, 21);
@@ -390,8 +400,13 @@ public final class PromiseTest {
         x = with("[0{1{!6}}/+]");
         due("8 [ shut ahead of the second", x.goes(), 0);
         due("8 [ sum", x.was(5), 6);
-        x = with("[+/!1]");
-        due("8 [ first only", x.goes(), 0);
+        x = with("[+/!1]!2");
+        due("8 [ first only", x.goes(), 4);
+        dueRow("8 [ first only was", was(x), 4, -1, 2, 0, 3, 0, 0, 1);
+        x = with("[l/+]!2");
+        due("8 [ dark ends all around", x.goes(), 3);
+        x = with("[x2:x9:++++;;/+]!2");
+        due("8 [ tired ends all around", x.goes(), 6);
     }
 
     private static void promise08goesReporting() {
@@ -409,6 +424,11 @@ public final class PromiseTest {
         due("8 < locked", x.goes(), 5);
         due("8 < locked root", x.root(), 1);
         due("8 < locked room", x.was(1), -1);
+        x = with("<+>!2");
+        due("8 < goes on", x.goes(), 4);
+        x = with("<!1>!2");
+        due("8 < ends all around", x.goes(), 5);
+        due("8 < befell", x.was(7), 2);
         x = with("<(l/<!1>)>");
         due("8 < behind the second", x.goes(), 5);
         due("8 < behind", x.was(3), 2);
@@ -426,6 +446,11 @@ public final class PromiseTest {
         x = with("0{x5:l!2;}");
         due("8 x ends", x.goes(), 4);
         due("8 x ends at once", x.was(4), 4);
+        x = with("x2:!1;!2");
+        due("8 x ends all around", x.goes(), 4);
+        due("8 x ends all around with 1", x.was(2), 1);
+        x = with("x2:+;!2");
+        due("8 x goes on", x.goes(), 4);
         x = with("x3:x3:;;");
         due("8 x in x", x.goes(), 0);
         due("8 x in x ticks", x.was(4), 4);
@@ -504,6 +529,10 @@ public final class PromiseTest {
         x.tries();
         due("9 sum behind it", x.was(5), 1);
         due("9 sum stays", x.count(6), 0);
+        x.sets(0, LOCK, 1);
+        due("9 as the house is now", x.tries(), 1);
+        x.sets(0, LOCK, 0);
+        due("9 as the house is then", x.tries(), 0);
         text(x, "0{");
         due("9 fault", x.tries(), -12);
         due("9 fault was stays", x.was(5), 1);
@@ -638,6 +667,12 @@ public final class PromiseTest {
         x.sets(4, LOCK, 1);
         x.sets(5, LOCK, 2);
         due("15 fewer beats less", x.fewest(), 8);
+        text(x, "1{}2{}3{}");
+        int[] like = {0, 2, 4, 8, 6, 10, 12, 14};
+        for (int set : like) {
+            for (int key = 1; key <= 3; key++) x.sets(key, LOCK, (set >> key & 1) == 0 ? 0 : key);
+            due("15 just the set", x.fewest(), set);
+        }
         due("15 keys stay", x.count(5), 14);
         due("15 openings stay", x.of(1, OPENINGS), 0);
         text(x, "(");
@@ -744,28 +779,36 @@ public final class PromiseTest {
         x.keys(10);
         x.goes();
         x.sets(9, 9, 9);
-        due("20 draw", x.draw(0), 0);
-        long drawn = 0;
-        for (int room = 0; room < 8; room++) {
-            drawn = (drawn * 1103515245L + 12345L) & 0x7fffffffL;
-            int lock = (int) (drawn >> 10 & 7);
-            int hook = (int) (drawn >> 12 & 7);
-            dueRow("20 room " + room, Arrays.copyOf(room(x, room), 7), (int) ((drawn >> 16) % 5), lock > 3 ? 0 : lock,
-                hook > 3 ? 0 : hook, (int) ((drawn >> 14) % 10), 0, 0, 0);
-        }
+        due("20 draw 0", x.draw(0), 0);
+        drawnAs(x, 0);
+        due("20 draw", x.draw(31415), 0);
+        drawnAs(x, 31415);
         due("20 keys", x.count(5), 0);
         due("20 sum", x.count(6), 0);
         due("20 text stays", x.count(3), 13);
         due("20 diary stays", x.diary(-1), 2);
         due("20 was stays", x.was(5), 5);
         due("20 bads stay", x.count(0), 1);
-        due("20 N", x.count(4), 4);
+        due("20 N", x.count(4), 5);
+        x.back();
         x.back();
         due("20 back", x.count(6), 5);
         due("20 seed at most", x.draw(999999), 0);
+        drawnAs(x, 999999);
         due("20 1000000", x.draw(1000000), -2);
         due("20 -1", x.draw(-1), -2);
         due("20 bads", x.count(0), 3);
+    }
+
+    private static void drawnAs(NightRounds x, int seed) {
+        long drawn = seed;
+        for (int room = 0; room < 8; room++) {
+            drawn = (drawn * 1103515245L + 12345L) & 0x7fffffffL;
+            int lock = (int) (drawn >> 10 & 7);
+            int hook = (int) (drawn >> 12 & 7);
+            dueRow("20 room " + room + " of " + seed, Arrays.copyOf(room(x, room), 7), (int) ((drawn >> 16) % 5),
+                lock > 3 ? 0 : lock, hook > 3 ? 0 : hook, (int) ((drawn >> 14) % 10), 0, 0, 0);
+        }
     }
 
     private static void promise21back() {
@@ -817,8 +860,10 @@ public final class PromiseTest {
         due("23 new", x.digest(), digestOf(x));
         due("23 by hand", new NightRounds().digest(), newDigest());
         x.draw(4711);
-        text(x, "x3:(0{l1{k}}/[!4/])2{3{}};<4{!3}>");
+        x.keys(14);
+        text(x, "x3:(0{l1{k}}/[!4/])(2{3{}}/);<4{!3}>");
         x.goes();
+        due("23 a diary", x.diary(-1) > 10 ? 1 : 0, 1);
         due("23 gone", x.digest(), digestOf(x));
         x.back();
         x.back();
@@ -826,6 +871,21 @@ public final class PromiseTest {
         x.keys(1);
         due("23 back", x.digest(), digestOf(x));
         due("23 changes nothing", x.digest(), x.digest());
+    }
+
+    private static void farNumbersAreBad() {
+        NightRounds x = with("0{l}");
+        int[] far = {Integer.MIN_VALUE, Integer.MIN_VALUE + 1, -1000, 1000, Integer.MAX_VALUE - 1, Integer.MAX_VALUE};
+        for (int v : far) {
+            int[] answers = {x.sets(v, 0, 0), x.sets(0, v, 0), x.sets(0, 0, v), x.of(v, 0), x.of(0, v), x.keys(v), x.type(v), x.often(v),
+                x.was(v), x.were(v, 0), x.were(0, v), x.cures(v), x.ends(v), x.told(v), x.count(v)};
+            for (int answer : answers) due("far " + v, answer, -2);
+            due("far diary " + v, x.diary(v), v < 0 ? -10 : -5);
+        }
+        due("far draw", x.draw(Integer.MAX_VALUE), -2);
+        due("far draw below", x.draw(Integer.MIN_VALUE), -2);
+        due("far bads", x.count(0), 6 * 15 + 3 + 2);
+        due("far nights", x.count(4), 0);
     }
 
     private static long newDigest() {
