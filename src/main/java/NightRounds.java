@@ -331,7 +331,7 @@ public final class NightRounds {
         return within(room, 0, ROOMS - 1);
     }
 
-    /** All rows are read through this, so that no index goes unlooked at. */
+    /** Looks at the index first, so that nothing is ever thrown. */
     private static int at(int[] row, int i) {
         return i >= 0 && i < row.length ? row[i] : 0;
     }
@@ -342,30 +342,20 @@ public final class NightRounds {
         }
     }
 
-    private static int loudnessOf(int kind, int openings) {
-        switch (kind) {
-            case CREAKY: return CREAK;
-            case SWOLLEN: return swollen(openings);
-            case OILED: return openings > 2 ? 0 : CREAK;
-            case GROANING: return 2 * swollen(openings);
-            default: return 0;
-        }
-    }
-
-    private static int swollen(int openings) {
-        return CREAK + openings % 3;
-    }
-
     /** The rooms and the porter's keys and sum: all that a night brings back, in one row so that it is copied at once. */
     private static final class House {
         private final int[] cells = new int[HOUSE_CELLS];
 
         int cell(int room, int what) {
-            return at(cells, room * ROOM_CELLS + what);
+            int i = room * ROOM_CELLS + what;
+            return i >= 0 && i < HOUSE_CELLS ? cells[i] : 0;
         }
 
         private void setCell(int room, int what, int v) {
-            put(cells, room * ROOM_CELLS + what, v);
+            int i = room * ROOM_CELLS + what;
+            if (i >= 0 && i < HOUSE_CELLS) {
+                cells[i] = v;
+            }
         }
 
         void change(int room, int what, int v) {
@@ -392,7 +382,18 @@ public final class NightRounds {
         }
 
         int loudness(int room) {
-            return loudnessOf(cell(room, KIND), cell(room, OPENINGS));
+            int openings = cell(room, OPENINGS);
+            switch (cell(room, KIND)) {
+                case CREAKY: return CREAK;
+                case SWOLLEN: return swollen(openings);
+                case OILED: return openings > 2 ? 0 : CREAK;
+                case GROANING: return 2 * swollen(openings);
+                default: return 0;
+            }
+        }
+
+        private static int swollen(int openings) {
+            return CREAK + openings % 3;
         }
 
         boolean admits(int room) {
@@ -400,13 +401,15 @@ public final class NightRounds {
             return lock == 0 || (keyring() & 1 << lock) != 0;
         }
 
-        boolean guestSleeps(int room) {
-            return cell(room, SLEEP) > 0 && cell(room, AWAKE) == 0;
+        /** The sleep of a guest who is asleep; 0 if nobody is. */
+        int sleepNow(int room) {
+            return cell(room, AWAKE) == 0 ? cell(room, SLEEP) : 0;
         }
 
         /** Whether the guest slept and sleeps no longer. */
         boolean wakes(int room, int noise) {
-            if (!guestSleeps(room) || noise < cell(room, SLEEP)) {
+            int sleep = sleepNow(room);
+            if (sleep == 0 || noise < sleep) {
                 return false;
             }
             setCell(room, AWAKE, 1);
@@ -667,10 +670,10 @@ public final class NightRounds {
 
         /** The sign at the place behind all blanks there. */
         private int nextSign() {
-            while (place < length && at(text, place) == ' ') {
+            while (place < length && text[place] == ' ') {
                 place++;
             }
-            return place < length ? at(text, place) : TEXT_END;
+            return place < length ? text[place] : TEXT_END;
         }
 
         private void readActs(int depth) {
@@ -703,38 +706,37 @@ public final class NightRounds {
                     put(figures, act, readFigure());
                     break;
                 case '(':
-                    readTwoParts(act, ')', depth);
+                    readParts(act, '/', ')', depth);
                     break;
                 case '[':
-                    readTwoParts(act, ']', depth);
+                    readParts(act, '/', ']', depth);
                     break;
                 case '<':
-                    readOnePart(act, '>', depth);
+                    readParts(act, NONE, '>', depth);
                     break;
                 case 'x':
                     put(figures, act, readFigure());
                     expect(':');
-                    readOnePart(act, ';', depth);
+                    readParts(act, NONE, ';', depth);
                     break;
                 default:
                     if (isRoomSign(sign)) {
                         roomBits |= 1 << sign - '0';
                         expect('{');
-                        readOnePart(act, '}', depth);
+                        readParts(act, NONE, '}', depth);
                     }
                     break;
             }
         }
 
-        private void readOnePart(int act, int closing, int depth) {
+        /** What an act holds: one part, or two where a divider stands between them. */
+        private void readParts(int act, int divider, int closing, int depth) {
             readActs(depth);
             put(middles, act, acts);
-            expect(closing);
-        }
-
-        private void readTwoParts(int act, int closing, int depth) {
-            readOnePart(act, '/', depth);
-            readActs(depth);
+            if (divider != NONE) {
+                expect(divider);
+                readActs(depth);
+            }
             expect(closing);
         }
 
@@ -906,18 +908,12 @@ public final class NightRounds {
                 case 'w':
                     return house.wakes(room, house.cell(room, SLEEP)) ? befalls(WOKEN, room) : true;
                 default:
-                    return readBeside(room);
+                    if (house.cell(room, LAMP) == 0) {
+                        return befalls(DARK, room);
+                    }
+                    house.addToSum(house.sleepNow(room));
+                    return true;
             }
-        }
-
-        private boolean readBeside(int room) {
-            if (house.cell(room, LAMP) == 0) {
-                return befalls(DARK, room);
-            }
-            if (house.guestSleeps(room)) {
-                house.addToSum(house.cell(room, SLEEP));
-            }
-            return true;
         }
     }
 }
