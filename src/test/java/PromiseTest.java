@@ -1,11 +1,7 @@
 import java.util.Arrays;
 
 /** Each promise of the document by its own words: ordinary inputs, the edges that it names, wrong inputs. */
-public final class PromiseTest {
-    private static final int KIND = 0, LOCK = 1, HOOK = 2, SLEEP = 3, AWAKE = 4, LAMP = 5, OPENINGS = 6, LOUD = 7;
-    private static int wrong = 0;
-    private static int checks = 0;
-
+public final class PromiseTest extends Checks {
     public static void main(String[] args) {
         promise01newObject();
         promise02sets();
@@ -41,53 +37,7 @@ public final class PromiseTest {
         promise22count();
         promise23digest();
         farNumbersAreBad();
-        System.out.println(checks + " checks, " + wrong + " wrong");
-        if (wrong != 0) System.exit(1);
-    }
-
-    private static void due(String what, long got, long want) {
-        checks++;
-        if (got != want) {
-            wrong++;
-            System.out.println(what + " answered " + got + ", due is " + want);
-        }
-    }
-
-    private static void dueRow(String what, int[] got, int... want) {
-        checks++;
-        if (!Arrays.equals(got, want)) {
-            wrong++;
-            System.out.println(what + " is " + Arrays.toString(got) + ", due is " + Arrays.toString(want));
-        }
-    }
-
-    private static void text(NightRounds x, String text) {
-        x.clear();
-        for (int i = 0; i < text.length(); i++) x.type(text.charAt(i));
-    }
-
-    private static NightRounds with(String text) {
-        NightRounds x = new NightRounds();
-        text(x, text);
-        return x;
-    }
-
-    private static int[] was(NightRounds x) {
-        int[] row = new int[8];
-        for (int i = 0; i < 8; i++) row[i] = x.was(i);
-        return row;
-    }
-
-    private static int[] diary(NightRounds x) {
-        int[] row = new int[x.diary(-1)];
-        for (int i = 0; i < row.length; i++) row[i] = x.diary(i);
-        return row;
-    }
-
-    private static int[] room(NightRounds x, int room) {
-        int[] row = new int[8];
-        for (int i = 0; i < 8; i++) row[i] = x.of(room, i);
-        return row;
+        end();
     }
 
     private static void promise01newObject() {
@@ -891,17 +841,6 @@ public final class PromiseTest {
     private static long newDigest() {
         long h = 1973;
         for (int i = 0; i < 9 + 8 * 7 + 8 + 1; i++) h = 31 * h + (i == 66 || i == 67 ? -1 : 0);
-        return h;
-    }
-
-    private static long digestOf(NightRounds x) {
-        long h = 1973;
-        for (int i = 0; i < 9; i++) h = 31 * h + x.count(i);
-        for (int room = 0; room < 8; room++) for (int i = 0; i < 7; i++) h = 31 * h + x.of(room, i);
-        for (int i = 0; i < 8; i++) h = 31 * h + x.was(i);
-        int n = x.diary(-1);
-        h = 31 * h + n;
-        for (int i = 0; i < n; i++) h = 31 * h + x.diary(i);
         return h;
     }
 }
