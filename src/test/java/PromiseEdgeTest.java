@@ -346,6 +346,15 @@ public final class PromiseEdgeTest extends Checks {
             due("5: dusk again", x.dusk(), 0);
             due("5: a night all the same", x.back() >= 0 && x.back() >= 0 ? x.count(7) : 0, guests);
         }
+        NightRounds x = with("(0{w}/)");
+        x.sets(0, SLEEP, 1);
+        x.goes();
+        due("5: one awake in the dark", x.dusk(), 1);
+        text(x, "6{l}7{l}");
+        x.sets(6, SLEEP, 1);
+        x.goes();
+        due("5: lamps on, but all asleep", x.dusk(), 0);
+        due("5: the lamps are off all the same", x.count(8), 0);
     }
 
     // ---- rounds
@@ -457,6 +466,7 @@ public final class PromiseEdgeTest extends Checks {
                 due(what, x.often(n), Math.min(i, n));
                 due(what + ": none goes behind it", x.of(6, OPENINGS), 2 + Math.min(i + 1, n));
                 due(what + ": the last one ended", x.was(0), i < n ? 2 : 0);
+                dueRow(what + ": the diary is of the last one", diary(x), 16, 26);
                 due(what + ": one night", x.count(4), 5);
             }
         }
@@ -714,6 +724,12 @@ public final class PromiseEdgeTest extends Checks {
             due("19: rooms of '" + texts[i] + "'", x.told(2), rooms[i]);
             due("19: none refused", x.count(0), 0);
         }
+        NightRounds x = with("0{7{+}}");
+        due("19: deep", x.told(1), 2);
+        text(x, "!1");
+        due("19: another text, its acts", x.told(0), 1);
+        due("19: another text, how deep", x.told(1), 0);
+        due("19: another text, its rooms", x.told(2), 0);
         for (int what = 0; what <= 2; what++) {
             due("19: fault 0", with("}").told(what), -10);
             due("19: fault 100", with("0" + " ".repeat(99)).told(what), -110);
