@@ -181,7 +181,7 @@ public final class NightRounds {
             return FAULT_BASE - fault;
         }
         for (int i = 0; i < KEY_SETS.length; i++) {
-            if (endWithKeys(KEY_SETS[i]) == NOTHING) {
+            if (porter.walk(withKeys(KEY_SETS[i]), unkept) == NOTHING) {
                 return KEY_SETS[i];
             }
         }
@@ -193,7 +193,7 @@ public final class NightRounds {
             return refuse(BAD);
         }
         int fault = script.read();
-        return fault != NONE ? FAULT_BASE - fault : endWith(room, KIND, kind);
+        return fault != NONE ? FAULT_BASE - fault : porter.walk(withRoom(room, KIND, kind), unkept);
     }
 
     public int cures(int sort) {
@@ -206,7 +206,7 @@ public final class NightRounds {
         }
         int bits = 0;
         for (int room = 0; room < ROOMS; room++) {
-            if (endWith(room, at(CURED, sort), 0) == NOTHING) {
+            if (porter.walk(withRoom(room, at(CURED, sort), 0), unkept) == NOTHING) {
                 bits |= 1 << room;
             }
         }
@@ -223,7 +223,7 @@ public final class NightRounds {
         }
         int found = 0;
         for (int i = 0; i < KEY_SETS.length; i++) {
-            if (endWithKeys(KEY_SETS[i]) == end) {
+            if (porter.walk(withKeys(KEY_SETS[i]), unkept) == end) {
                 found++;
             }
         }
@@ -311,16 +311,16 @@ public final class NightRounds {
         return why;
     }
 
-    private int endWithKeys(int set) {
+    private House withKeys(int set) {
         supposed.become(house);
         supposed.giveKeys(set);
-        return porter.walk(supposed, unkept);
+        return supposed;
     }
 
-    private int endWith(int room, int what, int v) {
+    private House withRoom(int room, int what, int v) {
         supposed.become(house);
         supposed.change(room, what, v);
-        return porter.walk(supposed, unkept);
+        return supposed;
     }
 
     private static boolean within(int v, int least, int most) {

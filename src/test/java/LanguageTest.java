@@ -5,8 +5,12 @@ import java.lang.reflect.Method;
 import java.lang.reflect.Modifier;
 import java.nio.file.Files;
 import java.nio.file.Path;
+import java.util.ArrayList;
 import java.util.Arrays;
+import java.util.List;
+import java.util.Map;
 import java.util.Set;
+import java.util.TreeMap;
 import java.util.TreeSet;
 import java.util.regex.Matcher;
 import java.util.regex.Pattern;
@@ -100,6 +104,7 @@ public final class LanguageTest {
             "Math.abs", "Math.floorMod", "Math.floorDiv", "Integer.bitCount");
         while (calls.find()) must(library.contains(calls.group()), "4 " + calls.group());
         methodsAreShort(code);
+        callsAreFewDeep(code);
     }
 
     private static void methodsAreShort(String code) {
@@ -112,5 +117,45 @@ public final class LanguageTest {
             found++;
         }
         must(found > 50, "the methods were found");
+    }
+
+    /** Methods of one name are taken for one, so that what is found is never less deep than what is. */
+    private static void callsAreFewDeep(String code) {
+        Map<String, Set<String>> calls = callsByMethod(code);
+        must(calls.size() > 80, "the methods were found");
+        for (String method : calls.keySet()) {
+            List<String> chain = longestChain(method, calls, new ArrayList<>());
+            must(chain.size() <= 8, "11 calls at most eight deep: " + chain);
+        }
+    }
+
+    private static Map<String, Set<String>> callsByMethod(String code) {
+        Map<String, String> bodies = new TreeMap<>();
+        Matcher heads = Pattern.compile("(?m)^( +)(?:(?:public|private|static) )*[\\w\\[\\]]+ (\\w+)\\([^;{}]*\\) \\{$").matcher(code);
+        while (heads.find()) {
+            int end = code.indexOf("\n" + heads.group(1) + "}", heads.end());
+            bodies.merge(heads.group(2), code.substring(heads.end(), end), String::concat);
+        }
+        Map<String, Set<String>> calls = new TreeMap<>();
+        for (String method : bodies.keySet()) {
+            Set<String> called = new TreeSet<>();
+            Matcher names = Pattern.compile("\\b(\\w+)\\(").matcher(bodies.get(method));
+            while (names.find()) if (bodies.containsKey(names.group(1))) called.add(names.group(1));
+            calls.put(method, called);
+        }
+        return calls;
+    }
+
+    /** The longest chain of calls from here in which no method stands twice: a recursion is gone through once. */
+    private static List<String> longestChain(String method, Map<String, Set<String>> calls, List<String> above) {
+        List<String> here = new ArrayList<>(above);
+        here.add(method);
+        List<String> longest = here;
+        for (String called : calls.get(method)) {
+            if (here.contains(called)) continue;
+            List<String> chain = longestChain(called, calls, here);
+            if (chain.size() > longest.size()) longest = chain;
+        }
+        return longest;
     }
 }
